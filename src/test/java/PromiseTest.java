@@ -66,6 +66,7 @@ public final class PromiseTest {
         wouldDeliver();
         wouldHouse();
         leasedShare();
+        digest();
         Check.finish("PromiseTest");
     }
 
@@ -289,6 +290,8 @@ public final class PromiseTest {
         Check.dueThrows("unreserve: none is left", Check.NOT_NOW, x, () -> x.unreserve(11));
         Check.dueThrows("unreserve: reservedFor", Check.NOT_NOW, x, () -> x.reservedFor(15));
         Check.due("unreserve: the other stays", x.reservedFor(7), 0);
+        x.reserve(5, 0);
+        Check.due("unreserve(5)", x.unreserve(5), 0);
         Check.dueThrows("unreserve(12)", Check.NO_SUCH, x, () -> x.unreserve(12));
         Check.dueThrows("unreserve(-1)", Check.NO_SUCH, x, () -> x.unreserve(-1));
     }
@@ -928,13 +931,15 @@ public final class PromiseTest {
         Check.due("play: undo leaves the buffer", x.clearBuffer(), 2);
         x.undo();
         Check.due("play: behind undo", x.time(), 0);
+        playAloneFromNow();
         String[] noCourse = {"", "s", "s0;", "t", "s0;t", "s12", "t101", "a", "s0;;s1", "s1!"};
         for (String text : noCourse) {
             type(x, text);
             Check.dueThrows("play: " + text, Check.BAD, x, () -> x.play());
         }
         String[] impossible = {"s0;s0", "g0", "r0", "d0", "x0", "s0;d1", "s0;x1", "s0;d0;d0;d0;d0;s0", "s0;d59",
-            "s0;t100;g0", "s0;d0;d0;g0", "s0;d0;d0;r0", "s0;d0;d0;d0;d0;t60;g0", "t100;s0;x0;x0"};
+            "s0;t100;g0", "s0;d0;d0;g0", "s0;d0;d0;r0", "s0;d0;d0;d0;d0;t60;g0", "t100;s0;x0;x0",
+            "g0;s0", "d0;t1", "s0;s0;t5", "s0;r0;x0;t5"};
         for (String text : impossible) {
             type(x, text);
             Check.dueThrows("play: " + text, Check.NOT_NOW, x, () -> x.play());
@@ -945,6 +950,20 @@ public final class PromiseTest {
         Check.due("play: a long one", x.play(), 0);
         Check.due("play: a long one, time", x.time(), 111);
         dueMessage("play: a long one, the last", x, 10, OFFERS, 0, 1);
+    }
+
+    // No call before has tried anything out.
+    private static void playAloneFromNow() {
+        KeyLeases x = withGuest();
+        x.tick(30);
+        type(x, "t1;r0");
+        Check.due("play: from the state of now on", x.play(), 1);
+        Check.due("play: the time of before goes on", x.time(), 31);
+        Check.due("play: two wants", x.messages(), 2);
+        KeyLeases leaving = withGuest();
+        type(leaving, "g0;d0");
+        leaving.play();
+        Check.due("play: the numbers go on, so the room is free", leaving.stateOf(0), 0);
     }
 
     // ---- promises 20 to 23
@@ -1024,6 +1043,33 @@ public final class PromiseTest {
         Check.dueThrows("undo: the older ones are dropped", Check.NOT_NOW, x, () -> x.undo());
         x.deliverAll();
         Check.due("undo: also if it changes nothing", x.savedStates(), 1);
+        undoBringsBackWhatIsNotSeen();
+    }
+
+    // What a yes tells, what a guest remembers of its want, and the next number are seen only by what follows.
+    private static void undoBringsBackWhatIsNotSeen() {
+        KeyLeases x = withGuest();
+        x.tick(4);
+        x.renew(0);
+        x.deliver(0);
+        x.tick(2);
+        x.renew(0);
+        x.changeLease(8);
+        x.lose(0);
+        x.deliver(0);
+        x.deliver(0);
+        Check.due("undo: the later yes came", x.ticksLeft(0), 8);
+        for (int i = 0; i < 6; i++) {
+            x.undo();
+        }
+        Check.due("undo: the earlier yes waits", x.kindAt(0), YES);
+        Check.due("undo: the ticks began with the stay", x.ticksToRenewal(0), 26);
+        x.tick(1);
+        x.deliver(0);
+        Check.due("undo: the latest want is the older one again", x.ticksLeft(0), 59);
+        Check.due("undo: asks 30 ticks behind that", x.ticksToRenewal(0), 29);
+        x.tick(29);
+        Check.due("undo: asks then", x.messages(), 1);
     }
 
     // ---- promises 24 to 30
@@ -1513,6 +1559,9 @@ public final class PromiseTest {
     }
 
     private static void wouldHouse() {
+        KeyLeases fresh = new KeyLeases();
+        fresh.seek(0);
+        Check.due("wouldHouse: the first call of all", fresh.wouldHouse(), 1);
         KeyLeases x = withGuest();
         Check.dueStill("wouldHouse: as it is", x, () -> x.wouldHouse(), 1);
         x.seek(1);
@@ -1537,5 +1586,54 @@ public final class PromiseTest {
             Check.due("leasedShare of " + leased, x.leasedShare() == leased / 16.0, true);
             Check.due("digest of " + leased, x.digest(), Digest.of(x, new boolean[2], ""));
         }
+    }
+
+    // ---- promise 59
+
+    private static void digest() {
+        KeyLeases x = new KeyLeases();
+        boolean[] slotTaken = new boolean[2];
+        dueDigest("new", x, slotTaken, "");
+        x.tick(3);
+        x.reserve(4, 0);
+        x.reserve(7, 12);
+        x.turnGhost(1);
+        x.seek(7);
+        x.seek(2);
+        x.seek(4);
+        x.deliverAll();
+        x.tick(5);
+        x.renew(7);
+        x.deliver(0);
+        x.leave(4);
+        x.seek(0);
+        x.seek(5);
+        x.deliver(2);
+        x.deliver(2);
+        x.deliver(2);
+        dueDigest("with messages", x, slotTaken, "");
+        x.lose(1);
+        x.changeLease(99);
+        x.changeHold(9);
+        x.changeShut(190);
+        x.keep(1);
+        slotTaken[1] = true;
+        type(x, "s0;t?~!");
+        dueDigest("with a snapshot and a buffer", x, slotTaken, "s0;t?~!");
+        x.keep(0);
+        slotTaken[0] = true;
+        x.undo();
+        x.tick(35);
+        dueDigest("behind undo", x, slotTaken, "s0;t?~!");
+        type(x, "t100;t100;t100;t100;t100;t100;t100;t100;t100;t100;t100;t100;");
+        dueDigest("with a full buffer", x, slotTaken, "t100;t100;t100;t100;t100;t100;t100;t100;t100;t100;t100;t100;");
+        KeyLeases full = withFullRow();
+        full.seek(11);
+        dueDigest("60 wait", full, new boolean[2], "");
+        Check.dueThrows("digest: saves nothing", Check.NO_SUCH, full, () -> full.deliver(60));
+    }
+
+    private static void dueDigest(String what, KeyLeases x, boolean[] slotTaken, String buffer) {
+        Check.due("digest: " + what, x.digest(), Digest.of(x, slotTaken, buffer));
     }
 }
