@@ -450,7 +450,7 @@ public final class KeyLeases {
     }
 
     private void requirePlace(int place) {
-        if (place < 0 || place >= now.row.waiting) {
+        if (!now.row.hasPlace(place)) {
             throw new IndexOutOfBoundsException("there is no such message");
         }
     }

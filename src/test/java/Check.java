@@ -58,7 +58,8 @@ final class Check {
         due(what + ": savedStates", x.savedStates(), Math.min(6, saved + 1));
         x.undo();
         if (saved == 6) {
-            // The oldest state is dropped for good: the hash tells of 5, by a value that 4 others and the buffer follow.
+            // The oldest state is dropped for good: the hash tells of 5 then,
+            // by a value that 4 others and the buffer follow.
             long weight = 1;
             for (int i = 0; i < 4 + x.firstError(); i++) {
                 weight *= 31;

@@ -566,7 +566,8 @@ final class PlainInn {
         return text(length);
     }
 
-    // A start can be gone on with if some end makes it a course; "0" and "s0" are ends enough for all starts, "1" for t.
+    // A start can be gone on with if some end makes it a course;
+    // "0" and "s0" are ends enough for all starts, and "1" for a "t".
     private int firstError() {
         for (int length = 1; length <= buffer.length(); length++) {
             String start = buffer.substring(0, length);

@@ -1,4 +1,4 @@
-/** For each promise its ordinary inputs, the edges that the document names, and wrong inputs; all due answers by hand. */
+/** For each promise its ordinary inputs, the edges that the document names, and wrong inputs; all due by hand. */
 public final class PromiseTest {
     private static final int SEEKS = 0;
     private static final int OFFERS = 1;
@@ -7,6 +7,8 @@ public final class PromiseTest {
     private static final int NO = 4;
     private static final int REFUSES = 5;
     private static final int LEAVES = 6;
+    // 60 characters; a part is to follow.
+    private static final String LONGEST = "t100;t100;t100;t100;t100;t100;t100;t100;t100;t100;t100;t100;";
 
     public static void main(String[] args) {
         newObject();
@@ -898,9 +900,8 @@ public final class PromiseTest {
         dueError("s0;t5,", 5);
         dueError("s0;q5;;;", 3);
         dueError("s0~", 2);
-        String longest = "t100;t100;t100;t100;t100;t100;t100;t100;t100;t100;t100;t100;";
-        dueError(longest, 60);
-        dueError(longest.substring(0, 59) + "s", 59);
+        dueError(LONGEST, 60);
+        dueError(LONGEST.substring(0, 59) + "s", 59);
     }
 
     private static void dueError(String text, int place) {
@@ -1625,8 +1626,8 @@ public final class PromiseTest {
         x.undo();
         x.tick(35);
         dueDigest("behind undo", x, slotTaken, "s0;t?~!");
-        type(x, "t100;t100;t100;t100;t100;t100;t100;t100;t100;t100;t100;t100;");
-        dueDigest("with a full buffer", x, slotTaken, "t100;t100;t100;t100;t100;t100;t100;t100;t100;t100;t100;t100;");
+        type(x, LONGEST);
+        dueDigest("with a full buffer", x, slotTaken, LONGEST);
         KeyLeases full = withFullRow();
         full.seek(11);
         dueDigest("60 wait", full, new boolean[2], "");

@@ -123,7 +123,9 @@ public final class RandomRunsTest {
 
     private void changeLengths() throws Exception {
         switch (random.nextInt(3)) {
-            case 0: compare("changeLease", random.nextBoolean() ? 8 + random.nextInt(12) : random.nextInt(210), 0); break;
+            case 0:
+                compare("changeLease", random.nextBoolean() ? 8 + random.nextInt(12) : random.nextInt(210), 0);
+                break;
             case 1: compare("changeHold", random.nextInt(54) - 1, 0); break;
             default: compare("changeShut", random.nextInt(204) - 1, 0); break;
         }
@@ -185,7 +187,8 @@ public final class RandomRunsTest {
         String got = answer(name, a, b);
         boolean answersNothing = got.equals("null");
         boolean asDue = got.equals(want) || answersNothing && !want.contains("Exception");
-        Check.due(asDue ? name : told + " then " + name + "(" + a + "): " + got + ", due is " + want + ":", asDue, true);
+        Check.due(asDue ? name : told + " then " + name + "(" + a + "): " + got + ", due is " + want + ":",
+            asDue, true);
     }
 
     private String answer(String name, int a, int b) throws Exception {
