@@ -14,15 +14,21 @@ final class Check {
 
     private static int wrong = 0;
     private static int looked = 0;
+    private static String about = "";
 
     private Check() {
+    }
+
+    /** What is looked at from here on is about this. */
+    static void about(String sentence) {
+        about = sentence + ": ";
     }
 
     static void due(String what, long got, long want) {
         looked++;
         if (got != want) {
             wrong++;
-            System.out.println(what + " answered " + got + ", due is " + want);
+            System.out.println(about + what + " answered " + got + ", due is " + want);
         }
     }
 
@@ -42,7 +48,7 @@ final class Check {
         looked++;
         if (got != want) {
             wrong++;
-            System.out.println(what + " threw " + got + ", due is " + want);
+            System.out.println(about + what + " threw " + got + ", due is " + want);
         }
         due(what + ": digest behind the exception", x.digest(), before);
     }

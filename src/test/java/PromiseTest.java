@@ -1,15 +1,5 @@
 /** For each promise its ordinary inputs, the edges that the document names, and wrong inputs; all due by hand. */
 public final class PromiseTest {
-    private static final int SEEKS = 0;
-    private static final int OFFERS = 1;
-    private static final int WANTS = 2;
-    private static final int YES = 3;
-    private static final int NO = 4;
-    private static final int REFUSES = 5;
-    private static final int LEAVES = 6;
-    // 60 characters; a part is to follow.
-    private static final String LONGEST = "t100;t100;t100;t100;t100;t100;t100;t100;t100;t100;t100;t100;";
-
     public static void main(String[] args) {
         newObject();
         seek();
@@ -74,50 +64,6 @@ public final class PromiseTest {
 
     // ---- helpers
 
-    /** The guest gets a room, by messages that go to and fro at once; no other messages wait before. */
-    private static int house(KeyLeases x, int guest) {
-        x.seek(guest);
-        x.deliverAll();
-        return x.roomOf(guest);
-    }
-
-    /** An inn in which the guest 0 has the room 0, since just now. */
-    private static KeyLeases withGuest() {
-        KeyLeases x = new KeyLeases();
-        house(x, 0);
-        return x;
-    }
-
-    /** An inn in which the guest 0 wants the room 0; the message that wants it waits. */
-    private static KeyLeases withWant() {
-        KeyLeases x = new KeyLeases();
-        x.seek(0);
-        x.deliver(0);
-        x.deliver(0);
-        return x;
-    }
-
-    /** 60 messages wait: the guest 0 has sent all of them, by seeking and giving up; it rests. */
-    private static KeyLeases withFullRow() {
-        KeyLeases x = new KeyLeases();
-        fill(x, 0);
-        return x;
-    }
-
-    private static void fill(KeyLeases x, int guest) {
-        while (x.messages() < 60) {
-            x.seek(guest);
-            x.giveUp(guest);
-        }
-    }
-
-    private static void type(KeyLeases x, String text) {
-        x.clearBuffer();
-        for (int i = 0; i < text.length(); i++) {
-            x.append(text.charAt(i));
-        }
-    }
-
     private static void dueMessage(String what, KeyLeases x, int place, int kind, int guest, int room) {
         Check.due(what + ": kindAt", x.kindAt(place), kind);
         Check.due(what + ": guestAt", x.guestAt(place), guest);
@@ -170,46 +116,46 @@ public final class PromiseTest {
         Check.dueUndoable("seek(0)", x, () -> x.seek(0), 1);
         Check.dueUndoable("seek(11)", x, () -> x.seek(11), 2);
         Check.due("seek: doingOf", x.doingOf(11), 1);
-        Check.due("seek: kindAt", x.kindAt(1), SEEKS);
+        Check.due("seek: kindAt", x.kindAt(1), Inns.SEEKS);
         Check.due("seek: guestAt", x.guestAt(1), 11);
         Check.dueThrows("seek: a guest who seeks", Check.NOT_NOW, x, () -> x.seek(0));
         Check.dueThrows("seek(12)", Check.NO_SUCH, x, () -> x.seek(12));
         Check.dueThrows("seek(-1)", Check.NO_SUCH, x, () -> x.seek(-1));
         Check.dueThrows("seek(least)", Check.NO_SUCH, x, () -> x.seek(Integer.MIN_VALUE));
         Check.dueThrows("seek(most)", Check.NO_SUCH, x, () -> x.seek(Integer.MAX_VALUE));
-        KeyLeases wanting = withWant();
+        KeyLeases wanting = Inns.withWant();
         Check.dueThrows("seek: a guest who wants", Check.NOT_NOW, wanting, () -> wanting.seek(0));
-        KeyLeases having = withGuest();
+        KeyLeases having = Inns.withGuest();
         Check.dueThrows("seek: a guest who has", Check.NOT_NOW, having, () -> having.seek(0));
-        KeyLeases full = withFullRow();
+        KeyLeases full = Inns.withFullRow();
         int lostBefore = full.lost();
         Check.dueUndoable("seek: 60 wait", full, () -> full.seek(1), 60);
         Check.due("seek: 60 wait: doingOf", full.doingOf(1), 1);
         Check.due("seek: 60 wait: lost", full.lost(), lostBefore + 1);
-        Check.due("seek: 60 wait: sent", full.sent(SEEKS), 61);
+        Check.due("seek: 60 wait: sent", full.sent(Inns.SEEKS), 61);
         Check.due("seek: 60 wait: the last is an old one", full.guestAt(59), 0);
     }
 
     private static void leave() {
-        KeyLeases x = withGuest();
-        house(x, 3);
+        KeyLeases x = Inns.withGuest();
+        Inns.house(x, 3);
         Check.dueUndoable("leave(3)", x, () -> x.leave(3), 1);
         Check.due("leave: doingOf", x.doingOf(3), 0);
-        dueMessage("leave", x, 0, LEAVES, 3, 1);
+        dueMessage("leave", x, 0, Inns.LEAVES, 3, 1);
         dueRoom("leave: for the inn", x, 1, 2, 3, 60);
         Check.dueThrows("leave: a guest who rests", Check.NOT_NOW, x, () -> x.leave(3));
         Check.dueThrows("leave(12)", Check.NO_SUCH, x, () -> x.leave(12));
         Check.dueThrows("leave(-1)", Check.NO_SUCH, x, () -> x.leave(-1));
         x.seek(4);
         Check.dueThrows("leave: a guest who seeks", Check.NOT_NOW, x, () -> x.leave(4));
-        KeyLeases wanting = withWant();
+        KeyLeases wanting = Inns.withWant();
         Check.dueThrows("leave: a guest who wants", Check.NOT_NOW, wanting, () -> wanting.leave(0));
-        KeyLeases full = withGuest();
-        fill(full, 1);
+        KeyLeases full = Inns.withGuest();
+        Inns.fill(full, 1);
         Check.due("leave: 60 wait", full.leave(0), 0);
         Check.due("leave: 60 wait: doingOf", full.doingOf(0), 0);
         Check.due("leave: 60 wait: lost", full.lost(), 1);
-        Check.due("leave: 60 wait: sent", full.sent(LEAVES), 1);
+        Check.due("leave: 60 wait: sent", full.sent(Inns.LEAVES), 1);
     }
 
     private static void giveUp() {
@@ -221,20 +167,20 @@ public final class PromiseTest {
         Check.dueThrows("giveUp: rests", Check.NOT_NOW, x, () -> x.giveUp(5));
         Check.dueThrows("giveUp(12)", Check.NO_SUCH, x, () -> x.giveUp(12));
         Check.dueThrows("giveUp(-1)", Check.NO_SUCH, x, () -> x.giveUp(-1));
-        KeyLeases wanting = withWant();
+        KeyLeases wanting = Inns.withWant();
         Check.dueUndoable("giveUp: wants", wanting, () -> wanting.giveUp(0), 2);
         Check.dueThrows("giveUp: roomOf", Check.NOT_NOW, wanting, () -> wanting.roomOf(0));
-        Check.due("giveUp: the want still waits", wanting.kindAt(0), WANTS);
-        KeyLeases having = withGuest();
+        Check.due("giveUp: the want still waits", wanting.kindAt(0), Inns.WANTS);
+        KeyLeases having = Inns.withGuest();
         Check.dueThrows("giveUp: has", Check.NOT_NOW, having, () -> having.giveUp(0));
     }
 
     private static void renew() {
-        KeyLeases x = withGuest();
+        KeyLeases x = Inns.withGuest();
         x.tick(5);
         Check.dueUndoable("renew(0)", x, () -> x.renew(0), 1);
         Check.due("renew again", x.renew(0), 2);
-        dueMessage("renew", x, 1, WANTS, 0, 0);
+        dueMessage("renew", x, 1, Inns.WANTS, 0, 0);
         Check.due("renew: doingOf", x.doingOf(0), 3);
         Check.due("renew: ticksLeft as before", x.ticksLeft(0), 55);
         x.deliverAll();
@@ -245,21 +191,21 @@ public final class PromiseTest {
         Check.dueThrows("renew(-1)", Check.NO_SUCH, x, () -> x.renew(-1));
         x.seek(2);
         Check.dueThrows("renew: seeks", Check.NOT_NOW, x, () -> x.renew(2));
-        KeyLeases wanting = withWant();
+        KeyLeases wanting = Inns.withWant();
         Check.dueThrows("renew: wants", Check.NOT_NOW, wanting, () -> wanting.renew(0));
         renewIntoFullRow();
     }
 
     // A message that is lost for want of a place is the latest one all the same.
     private static void renewIntoFullRow() {
-        KeyLeases x = withGuest();
+        KeyLeases x = Inns.withGuest();
         x.renew(0);
         x.tick(3);
-        fill(x, 1);
+        Inns.fill(x, 1);
         Check.due("renew: 60 wait", x.renew(0), 60);
         Check.due("renew: 60 wait: lost", x.lost(), 1);
         x.deliver(0);
-        Check.due("renew: the yes of the older message waits", x.kindAt(59), YES);
+        Check.due("renew: the yes of the older message waits", x.kindAt(59), Inns.YES);
         x.deliver(59);
         Check.due("renew: it does not count", x.ticksLeft(0), 57);
     }
@@ -278,7 +224,7 @@ public final class PromiseTest {
         Check.dueThrows("reserve(0, 16)", Check.NO_SUCH, x, () -> x.reserve(0, 16));
         Check.dueThrows("reserve(0, -1)", Check.NO_SUCH, x, () -> x.reserve(0, -1));
         Check.dueThrows("reserve(12, 4): the first exception", Check.NO_SUCH, x, () -> x.reserve(12, 4));
-        KeyLeases leased = withGuest();
+        KeyLeases leased = Inns.withGuest();
         leased.reserve(1, 0);
         Check.due("reserve: a leased room", leased.reservedFor(0), 1);
         dueRoom("reserve: a leased room", leased, 0, 2, 0, 60);
@@ -315,13 +261,13 @@ public final class PromiseTest {
     // ---- promises 9 to 11
 
     private static void changeLease() {
-        KeyLeases x = withGuest();
+        KeyLeases x = Inns.withGuest();
         Check.dueUndoable("changeLease(8)", x, () -> x.changeLease(8), 60);
         Check.dueUndoable("changeLease(200)", x, () -> x.changeLease(200), 8);
         Check.due("changeLease: leaseTicks", x.leaseTicks(), 200);
         dueRoom("changeLease: one that goes on", x, 0, 2, 0, 60);
         Check.due("changeLease: ticksLeft", x.ticksLeft(0), 60);
-        house(x, 1);
+        Inns.house(x, 1);
         dueRoom("changeLease: a new one", x, 1, 2, 1, 200);
         Check.due("changeLease: ticksLeft of a new one", x.ticksLeft(1), 200);
         Check.dueThrows("changeLease(7)", Check.BAD, x, () -> x.changeLease(7));
@@ -366,15 +312,15 @@ public final class PromiseTest {
     private static void deliverSeeks() {
         KeyLeases x = new KeyLeases();
         x.seek(4);
-        Check.dueUndoable("deliver seeks", x, () -> x.deliver(0), SEEKS);
+        Check.dueUndoable("deliver seeks", x, () -> x.deliver(0), Inns.SEEKS);
         dueRoom("seeks: the lowest room", x, 0, 1, 4, 10);
-        dueMessage("seeks: an offer", x, 0, OFFERS, 4, 0);
+        dueMessage("seeks: an offer", x, 0, Inns.OFFERS, 4, 0);
         Check.due("seeks: the guest seeks yet", x.doingOf(4), 1);
         x.tick(6);
         x.changeHold(2);
         x.giveUp(4);
         x.seek(4);
-        Check.due("seeks anew", x.deliver(1), SEEKS);
+        Check.due("seeks anew", x.deliver(1), Inns.SEEKS);
         dueRoom("seeks anew: the same room, held anew", x, 0, 1, 4, 2);
         Check.due("seeks anew: a second offer", x.messages(), 2);
         Check.due("seeks anew: free rooms", x.freeRooms(), 15);
@@ -393,13 +339,13 @@ public final class PromiseTest {
         for (int guest = 0; guest < 4; guest++) {
             x.leave(guest);
             x.lose(0);
-            house(x, guest);
+            Inns.house(x, guest);
         }
         Check.due("no room is free", x.freeRooms(), 0);
         x.leave(3);
         x.lose(0);
         x.seek(3);
-        Check.due("seeks: no room", x.deliver(0), SEEKS);
+        Check.due("seeks: no room", x.deliver(0), Inns.SEEKS);
         Check.due("seeks: nothing happens", x.messages(), 0);
         Check.due("seeks: the guest seeks on", x.doingOf(3), 1);
         Check.dueThrows("roomFor: none", Check.NOT_NOW, x, () -> x.roomFor(3));
@@ -412,8 +358,8 @@ public final class PromiseTest {
         Check.due("roomFor: not one reserved for others", x.roomFor(0), 1);
         Check.due("roomFor: the lowest, reserved for it", x.roomFor(1), 0);
         Check.due("roomFor: reserved, not the lowest", x.roomFor(2), 5);
-        house(x, 0);
-        house(x, 3);
+        Inns.house(x, 0);
+        Inns.house(x, 3);
         x.leave(3);
         x.leave(0);
         x.deliverAll();
@@ -424,7 +370,7 @@ public final class PromiseTest {
         x.reserve(4, 2);
         Check.due("roomFor: leased last, but reserved for another", x.roomFor(3), 1);
         Check.due("roomFor: reserved for it, leased last to another", x.roomFor(4), 2);
-        house(x, 4);
+        Inns.house(x, 4);
         Check.due("roomFor: reserved, but leased already", x.roomFor(4), 1);
         KeyLeases y = new KeyLeases();
         y.seek(0);
@@ -445,11 +391,11 @@ public final class PromiseTest {
         x.seek(0);
         x.deliver(0);
         x.deliver(0);
-        Check.dueUndoable("deliver offers", x, () -> x.deliver(0), OFFERS);
+        Check.dueUndoable("deliver offers", x, () -> x.deliver(0), Inns.OFFERS);
         Check.due("offers: doingOf", x.doingOf(0), 2);
         Check.due("offers: roomOf", x.roomOf(0), 0);
-        dueMessage("offers: a want", x, 1, WANTS, 0, 0);
-        Check.dueUndoable("deliver a second offer", x, () -> x.deliver(0), OFFERS);
+        dueMessage("offers: a want", x, 1, Inns.WANTS, 0, 0);
+        Check.dueUndoable("deliver a second offer", x, () -> x.deliver(0), Inns.OFFERS);
         Check.due("offers: nothing to one who wants", x.messages(), 1);
         KeyLeases resting = new KeyLeases();
         resting.seek(0);
@@ -461,50 +407,41 @@ public final class PromiseTest {
     }
 
     private static void deliverWants() {
-        KeyLeases x = withWant();
+        KeyLeases x = Inns.withWant();
         x.tick(4);
         x.changeLease(20);
-        Check.dueUndoable("deliver wants", x, () -> x.deliver(0), WANTS);
+        Check.dueUndoable("deliver wants", x, () -> x.deliver(0), Inns.WANTS);
         dueRoom("wants: leased from its delivery on", x, 0, 2, 0, 20);
-        dueMessage("wants: a yes", x, 0, YES, 0, 0);
+        dueMessage("wants: a yes", x, 0, Inns.YES, 0, 0);
         x.deliver(0);
         Check.due("wants: for the guest from its sending on", x.ticksLeft(0), 16);
         x.changeLease(8);
         x.renew(0);
         x.deliver(0);
         dueRoom("wants: not less long than already", x, 0, 2, 0, 20);
-        Check.due("wants: yes once more", x.deliver(0), YES);
+        Check.due("wants: yes once more", x.deliver(0), Inns.YES);
         Check.due("wants: for the guest it is sooner", x.ticksLeft(0), 8);
-        KeyLeases late = withWant();
+        KeyLeases late = Inns.withWant();
         late.tick(10);
         Check.due("wants: the offer is over", late.stateOf(0), 0);
         late.deliver(0);
-        dueMessage("wants: a no", late, 0, NO, 0, 0);
+        dueMessage("wants: a no", late, 0, Inns.NO, 0, 0);
         Check.due("wants: not leased", late.stateOf(0), 0);
-        KeyLeases taken = withWant();
+        KeyLeases taken = Inns.withWant();
         taken.tick(10);
-        house1WhileAMessageWaits(taken);
+        Inns.house1WhileAMessageWaits(taken);
         taken.deliver(0);
-        dueMessage("wants: leased to another", taken, 0, NO, 0, 0);
+        dueMessage("wants: leased to another", taken, 0, Inns.NO, 0, 0);
         dueRoom("wants: leased to another", taken, 0, 2, 1, 60);
     }
 
-    // One message waits before, and waits on.
-    private static void house1WhileAMessageWaits(KeyLeases x) {
-        x.seek(1);
-        for (int i = 0; i < 4; i++) {
-            x.deliver(1);
-        }
-        Check.due("the guest 1 has the room 0", x.roomOf(1), 0);
-    }
-
     private static void deliverYes() {
-        KeyLeases x = withWant();
+        KeyLeases x = Inns.withWant();
         x.deliver(0);
-        Check.dueUndoable("deliver yes", x, () -> x.deliver(0), YES);
+        Check.dueUndoable("deliver yes", x, () -> x.deliver(0), Inns.YES);
         Check.due("yes: doingOf", x.doingOf(0), 3);
         Check.due("yes: nothing is sent", x.messages(), 0);
-        KeyLeases givenUp = withWant();
+        KeyLeases givenUp = Inns.withWant();
         givenUp.deliver(0);
         givenUp.giveUp(0);
         givenUp.deliver(0);
@@ -516,13 +453,13 @@ public final class PromiseTest {
     }
 
     private static void yesToAnOlderWant() {
-        KeyLeases x = withWant();
+        KeyLeases x = Inns.withWant();
         x.deliver(0);
         x.giveUp(0);
         x.seek(0);
         x.reserve(0, 0);
         x.deliver(1);
-        dueMessage("an offer of another room, as 0 is leased", x, 1, OFFERS, 0, 1);
+        dueMessage("an offer of another room, as 0 is leased", x, 1, Inns.OFFERS, 0, 1);
         x.deliver(1);
         x.deliver(0);
         Check.due("yes: to an older want", x.doingOf(0), 2);
@@ -543,7 +480,7 @@ public final class PromiseTest {
     }
 
     private static void yesThatIsOver() {
-        KeyLeases x = withWant();
+        KeyLeases x = Inns.withWant();
         x.changeLease(8);
         x.deliver(0);
         x.tick(7);
@@ -558,7 +495,7 @@ public final class PromiseTest {
         Check.due("yes: over already, not refused", x.messages(), 0);
         Check.due("yes: over already, no stay", x.staysOf(0), 0);
         Check.due("yes: over already, not evicted", x.evicted(), 0);
-        KeyLeases renewed = withGuest();
+        KeyLeases renewed = Inns.withGuest();
         renewed.changeLease(8);
         renewed.renew(0);
         renewed.deliver(0);
@@ -569,24 +506,24 @@ public final class PromiseTest {
     }
 
     private static void yesInHauntedRoom() {
-        KeyLeases x = withWant();
+        KeyLeases x = Inns.withWant();
         x.deliver(0);
         x.turnGhost(0);
         x.deliver(0);
         Check.due("yes: haunted", x.doingOf(0), 0);
         Check.due("yes: haunted, staysOf", x.staysOf(0), 0);
-        dueMessage("yes: haunted, refused", x, 0, REFUSES, 0, 0);
-        KeyLeases having = withGuest();
+        dueMessage("yes: haunted, refused", x, 0, Inns.REFUSES, 0, 0);
+        KeyLeases having = Inns.withGuest();
         having.turnGhost(0);
         having.tick(3);
         having.renew(0);
         having.deliverAll();
         Check.due("yes: haunted, but had already", having.ticksLeft(0), 60);
-        Check.due("yes: haunted, but had already, nothing sent", having.sent(REFUSES), 0);
+        Check.due("yes: haunted, but had already, nothing sent", having.sent(Inns.REFUSES), 0);
     }
 
     private static void yesThatIsSooner() {
-        KeyLeases x = withGuest();
+        KeyLeases x = Inns.withGuest();
         x.changeLease(9);
         x.renew(0);
         x.deliverAll();
@@ -596,29 +533,29 @@ public final class PromiseTest {
     }
 
     private static void deliverNo() {
-        KeyLeases x = withWant();
+        KeyLeases x = Inns.withWant();
         x.tick(10);
         x.deliver(0);
-        Check.dueUndoable("deliver no", x, () -> x.deliver(0), NO);
+        Check.dueUndoable("deliver no", x, () -> x.deliver(0), Inns.NO);
         Check.due("no: rests", x.doingOf(0), 0);
-        KeyLeases older = withWant();
+        KeyLeases older = Inns.withWant();
         older.tick(10);
         older.deliver(0);
         older.giveUp(0);
         older.seek(0);
         older.deliver(1);
         older.deliver(1);
-        Check.due("no: waits", older.deliver(0), NO);
+        Check.due("no: waits", older.deliver(0), Inns.NO);
         Check.due("no: to an older want", older.doingOf(0), 2);
     }
 
     private static void deliverRefuses() {
-        KeyLeases x = withWant();
+        KeyLeases x = Inns.withWant();
         x.turnGhost(0);
         x.deliver(0);
         x.deliver(0);
         x.tick(3);
-        Check.dueUndoable("deliver refuses", x, () -> x.deliver(0), REFUSES);
+        Check.dueUndoable("deliver refuses", x, () -> x.deliver(0), Inns.REFUSES);
         dueRoom("refuses: shut from its delivery on", x, 0, 3, 0, 50);
         Check.due("refuses: leasedByGuests", x.leasedByGuests(), 0);
         Check.due("refuses: roomFor, while shut", x.roomFor(0), 1);
@@ -626,7 +563,7 @@ public final class PromiseTest {
         Check.due("refuses: shut yet", x.ticksOf(0), 1);
         x.tick(1);
         Check.due("refuses: free again", x.stateOf(0), 0);
-        KeyLeases ended = withWant();
+        KeyLeases ended = Inns.withWant();
         ended.turnGhost(0);
         ended.changeLease(8);
         ended.deliver(0);
@@ -640,7 +577,7 @@ public final class PromiseTest {
 
     // Two messages of the guest want the same room; the refusal is older than the second yes.
     private static void refusesAnOlderYes() {
-        KeyLeases x = withWant();
+        KeyLeases x = Inns.withWant();
         x.giveUp(0);
         x.seek(0);
         x.deliver(1);
@@ -648,43 +585,43 @@ public final class PromiseTest {
         x.turnGhost(0);
         x.deliver(1);
         x.deliver(1);
-        dueMessage("a want and then a refusal", x, 0, WANTS, 0, 0);
-        dueMessage("a want and then a refusal", x, 1, REFUSES, 0, 0);
+        dueMessage("a want and then a refusal", x, 0, Inns.WANTS, 0, 0);
+        dueMessage("a want and then a refusal", x, 1, Inns.REFUSES, 0, 0);
         x.keep(0);
         x.deliver(0);
-        Check.due("refuses: before the second yes", x.deliver(0), REFUSES);
+        Check.due("refuses: before the second yes", x.deliver(0), Inns.REFUSES);
         dueRoom("refuses: not the lease of a later yes", x, 0, 2, 0, 60);
         Check.due("refuses: nothing is shut", x.shutSoFar(), 0);
         x.goBack(0);
         x.deliver(1);
         dueRoom("refuses: the lease of an earlier yes", x, 0, 3, 0, 50);
         x.deliver(0);
-        dueMessage("wants: a room that is shut", x, 0, NO, 0, 0);
+        dueMessage("wants: a room that is shut", x, 0, Inns.NO, 0, 0);
     }
 
     private static void deliverLeaves() {
-        KeyLeases x = withGuest();
+        KeyLeases x = Inns.withGuest();
         x.leave(0);
-        Check.dueUndoable("deliver leaves", x, () -> x.deliver(0), LEAVES);
+        Check.dueUndoable("deliver leaves", x, () -> x.deliver(0), Inns.LEAVES);
         dueRoom("leaves: free", x, 0, 0, 0, 0);
         Check.due("leaves: leasedByGuests", x.leasedByGuests(), 0);
-        KeyLeases ended = withGuest();
+        KeyLeases ended = Inns.withGuest();
         ended.tick(50);
         ended.leave(0);
         while (ended.messages() > 1) {
             ended.lose(0);
         }
         ended.tick(10);
-        house1WhileAMessageWaits(ended);
-        Check.due("leaves: of a lease that is over", ended.deliver(0), LEAVES);
+        Inns.house1WhileAMessageWaits(ended);
+        Check.due("leaves: of a lease that is over", ended.deliver(0), Inns.LEAVES);
         dueRoom("leaves: not the lease of another", ended, 0, 2, 1, 60);
-        KeyLeases renewed = withGuest();
+        KeyLeases renewed = Inns.withGuest();
         renewed.renew(0);
         renewed.leave(0);
         renewed.deliver(0);
-        Check.due("leaves: before the second yes", renewed.deliver(0), LEAVES);
+        Check.due("leaves: before the second yes", renewed.deliver(0), Inns.LEAVES);
         dueRoom("leaves: not the lease of a later yes", renewed, 0, 2, 0, 60);
-        KeyLeases both = withGuest();
+        KeyLeases both = Inns.withGuest();
         both.leave(0);
         both.deliver(0);
         both.seek(0);
@@ -703,11 +640,11 @@ public final class PromiseTest {
         x.deliver(1);
         Check.due("deliver: the first stays", x.guestAt(0), 0);
         Check.due("deliver: the last comes up", x.guestAt(1), 2);
-        Check.due("deliver: the new one is behind", x.kindAt(2), OFFERS);
+        Check.due("deliver: the new one is behind", x.kindAt(2), Inns.OFFERS);
         Check.due("deliver: three wait", x.messages(), 3);
-        KeyLeases full = withFullRow();
-        Check.due("deliver: 60 wait", full.deliver(59), SEEKS);
-        Check.due("deliver: the offer finds a place", full.kindAt(59), OFFERS);
+        KeyLeases full = Inns.withFullRow();
+        Check.due("deliver: 60 wait", full.deliver(59), Inns.SEEKS);
+        Check.due("deliver: the offer finds a place", full.kindAt(59), Inns.OFFERS);
         Check.due("deliver: nothing is lost", full.lost(), 0);
     }
 
@@ -718,7 +655,7 @@ public final class PromiseTest {
         x.seek(0);
         x.seek(1);
         x.deliver(0);
-        Check.dueUndoable("lose(1)", x, () -> x.lose(1), OFFERS);
+        Check.dueUndoable("lose(1)", x, () -> x.lose(1), Inns.OFFERS);
         Check.due("lose: one waits", x.messages(), 1);
         Check.due("lose: the other stays", x.guestAt(0), 1);
         Check.due("lose: the guest seeks on", x.doingOf(0), 1);
@@ -726,7 +663,7 @@ public final class PromiseTest {
         Check.due("lose: delivered", x.delivered(), 1);
         Check.dueThrows("lose(1)", Check.NO_SUCH, x, () -> x.lose(1));
         Check.dueThrows("lose(-1)", Check.NO_SUCH, x, () -> x.lose(-1));
-        Check.due("lose(0)", x.lose(0), SEEKS);
+        Check.due("lose(0)", x.lose(0), Inns.SEEKS);
         Check.dueThrows("lose(0)", Check.NO_SUCH, x, () -> x.lose(0));
     }
 
@@ -745,7 +682,7 @@ public final class PromiseTest {
         haunted.seek(0);
         Check.due("deliverAll: with a refusal", haunted.deliverAll(), 5);
         dueRoom("deliverAll: with a refusal", haunted, 0, 3, 0, 50);
-        KeyLeases full = withFullRow();
+        KeyLeases full = Inns.withFullRow();
         full.seek(1);
         Check.due("deliverAll: 60 and their offers", full.deliverAll(), 120);
     }
@@ -753,7 +690,7 @@ public final class PromiseTest {
     // ---- promise 15
 
     private static void tick() {
-        KeyLeases x = withGuest();
+        KeyLeases x = Inns.withGuest();
         Check.dueUndoable("tick(1)", x, () -> x.tick(1), 0);
         Check.due("tick: time", x.time(), 1);
         Check.dueThrows("tick(0)", Check.BAD, x, () -> x.tick(0));
@@ -777,7 +714,7 @@ public final class PromiseTest {
     }
 
     private static void tickEndsForTheGuestFirst() {
-        KeyLeases x = withWant();
+        KeyLeases x = Inns.withWant();
         x.tick(7);
         x.deliver(0);
         x.deliver(0);
@@ -789,16 +726,16 @@ public final class PromiseTest {
     }
 
     private static void asksForMoreTime() {
-        KeyLeases x = withGuest();
+        KeyLeases x = Inns.withGuest();
         x.changeLease(9);
-        house(x, 2);
-        house(x, 1);
+        Inns.house(x, 2);
+        Inns.house(x, 1);
         x.tick(3);
         Check.due("asks: not before half of 9", x.messages(), 0);
         x.tick(1);
         Check.due("asks: by their numbers", x.messages(), 2);
-        dueMessage("asks: the guest 1 first", x, 0, WANTS, 1, 2);
-        dueMessage("asks: the guest 2 then", x, 1, WANTS, 2, 1);
+        dueMessage("asks: the guest 1 first", x, 0, Inns.WANTS, 1, 2);
+        dueMessage("asks: the guest 2 then", x, 1, Inns.WANTS, 2, 1);
         x.tick(2);
         Check.due("asks: not between", x.messages(), 2);
         x.tick(1);
@@ -817,7 +754,7 @@ public final class PromiseTest {
         Check.due("asks: the guest 1 no sooner than half of the new ticks", x.messages(), 0);
         x.tick(1);
         Check.due("asks: the guest 1 anew", x.messages(), 1);
-        KeyLeases sixty = withGuest();
+        KeyLeases sixty = Inns.withGuest();
         sixty.tick(29);
         Check.due("asks: 29 of 60", sixty.messages(), 0);
         sixty.tick(1);
@@ -828,11 +765,11 @@ public final class PromiseTest {
         Check.due("asks: 52 of 60", sixty.messages(), 2);
         sixty.tick(7);
         Check.due("asks: 59 of 60", sixty.messages(), 2);
-        KeyLeases full = withGuest();
-        fill(full, 1);
+        KeyLeases full = Inns.withGuest();
+        Inns.fill(full, 1);
         full.tick(30);
         Check.due("asks: 60 wait", full.lost(), 1);
-        Check.due("asks: 60 wait: sent", full.sent(WANTS), 2);
+        Check.due("asks: 60 wait: sent", full.sent(Inns.WANTS), 2);
     }
 
     // ---- promises 16 to 19
@@ -857,7 +794,7 @@ public final class PromiseTest {
     private static void clearBuffer() {
         KeyLeases x = new KeyLeases();
         Check.dueStill("clearBuffer: empty", x, () -> x.clearBuffer(), 0);
-        type(x, "s0;t5");
+        Inns.type(x, "s0;t5");
         Check.due("clearBuffer", x.clearBuffer(), 5);
         Check.due("clearBuffer: not undoable", x.savedStates(), 0);
         Check.due("clearBuffer: again", x.clearBuffer(), 0);
@@ -900,33 +837,33 @@ public final class PromiseTest {
         dueError("s0;t5,", 5);
         dueError("s0;q5;;;", 3);
         dueError("s0~", 2);
-        dueError(LONGEST, 60);
-        dueError(LONGEST.substring(0, 59) + "s", 59);
+        dueError(Inns.LONGEST, 60);
+        dueError(Inns.LONGEST.substring(0, 59) + "s", 59);
     }
 
     private static void dueError(String text, int place) {
         KeyLeases x = new KeyLeases();
-        type(x, text);
+        Inns.type(x, text);
         Check.dueStill("firstError of " + text, x, () -> x.firstError(), place);
     }
 
     private static void play() {
         KeyLeases x = new KeyLeases();
-        type(x, "s0;d0;d0;d0;d0;s11;t5");
+        Inns.type(x, "s0;d0;d0;d0;d0;s11;t5");
         x.keep(0);
         Check.due("play", x.play(), 1);
         Check.due("play: undoable, as one call", x.savedStates(), 1);
         Check.due("play: the buffer is cleared", x.clearBuffer(), 0);
         Check.due("play: has", x.ticksLeft(0), 55);
         Check.due("play: seeks", x.doingOf(11), 1);
-        type(x, "r0;x1;g0");
+        Inns.type(x, "r0;x1;g0");
         Check.due("play: asks, loses and leaves", x.play(), 0);
         Check.due("play: messages", x.messages(), 2);
-        Check.due("play: seeks yet", x.kindAt(0), SEEKS);
-        dueMessage("play: leaves", x, 1, LEAVES, 0, 0);
-        Check.due("play: sent", x.sent(WANTS), 2);
+        Check.due("play: seeks yet", x.kindAt(0), Inns.SEEKS);
+        dueMessage("play: leaves", x, 1, Inns.LEAVES, 0, 0);
+        Check.due("play: sent", x.sent(Inns.WANTS), 2);
         Check.due("play: lost", x.lost(), 1);
-        type(x, "x0");
+        Inns.type(x, "x0");
         x.undo();
         Check.due("play: behind undo", x.ticksLeft(0), 55);
         Check.due("play: undo leaves the buffer", x.clearBuffer(), 2);
@@ -935,34 +872,34 @@ public final class PromiseTest {
         playAloneFromNow();
         String[] noCourse = {"", "s", "s0;", "t", "s0;t", "s12", "t101", "a", "s0;;s1", "s1!"};
         for (String text : noCourse) {
-            type(x, text);
+            Inns.type(x, text);
             Check.dueThrows("play: " + text, Check.BAD, x, () -> x.play());
         }
         String[] impossible = {"s0;s0", "g0", "r0", "d0", "x0", "s0;d1", "s0;x1", "s0;d0;d0;d0;d0;s0", "s0;d59",
             "s0;t100;g0", "s0;d0;d0;g0", "s0;d0;d0;r0", "s0;d0;d0;d0;d0;t60;g0", "t100;s0;x0;x0",
             "g0;s0", "d0;t1", "s0;s0;t5", "s0;r0;x0;t5"};
         for (String text : impossible) {
-            type(x, text);
+            Inns.type(x, text);
             Check.dueThrows("play: " + text, Check.NOT_NOW, x, () -> x.play());
         }
-        type(x, "d0;d0;;");
+        Inns.type(x, "d0;d0;;");
         Check.dueThrows("play: the first exception", Check.BAD, x, () -> x.play());
-        type(x, "s0;s1;s2;s3;s4;s5;s6;s7;s8;s9;s10;s11;t1;t10;t100;d11;x11;d0");
+        Inns.type(x, "s0;s1;s2;s3;s4;s5;s6;s7;s8;s9;s10;s11;t1;t10;t100;d11;x11;d0");
         Check.due("play: a long one", x.play(), 0);
         Check.due("play: a long one, time", x.time(), 111);
-        dueMessage("play: a long one, the last", x, 10, OFFERS, 0, 1);
+        dueMessage("play: a long one, the last", x, 10, Inns.OFFERS, 0, 1);
     }
 
     // No call before has tried anything out.
     private static void playAloneFromNow() {
-        KeyLeases x = withGuest();
+        KeyLeases x = Inns.withGuest();
         x.tick(30);
-        type(x, "t1;r0");
+        Inns.type(x, "t1;r0");
         Check.due("play: from the state of now on", x.play(), 1);
         Check.due("play: the time of before goes on", x.time(), 31);
         Check.due("play: two wants", x.messages(), 2);
-        KeyLeases leaving = withGuest();
-        type(leaving, "g0;d0");
+        KeyLeases leaving = Inns.withGuest();
+        Inns.type(leaving, "g0;d0");
         leaving.play();
         Check.due("play: the numbers go on, so the room is free", leaving.stateOf(0), 0);
     }
@@ -970,7 +907,7 @@ public final class PromiseTest {
     // ---- promises 20 to 23
 
     private static void keepAndGoBack() {
-        KeyLeases x = withGuest();
+        KeyLeases x = Inns.withGuest();
         x.reserve(3, 3);
         int saved = x.savedStates();
         x.keep(1);
@@ -988,7 +925,7 @@ public final class PromiseTest {
         x.leave(0);
         x.tick(7);
         x.keep(0);
-        type(x, "s1");
+        Inns.type(x, "s1");
         Check.dueUndoable("goBack(1)", x, () -> { x.goBack(1); return x.time(); }, 0);
         Check.due("goBack: has", x.ticksLeft(0), 60);
         Check.due("goBack: reservedFor", x.reservedFor(3), 3);
@@ -1000,7 +937,7 @@ public final class PromiseTest {
         Check.due("goBack: the buffer stays", x.clearBuffer(), 2);
         x.goBack(0);
         Check.due("goBack(0): time", x.time(), 7);
-        Check.due("goBack(0): a leaving waits", x.kindAt(0), LEAVES);
+        Check.due("goBack(0): a leaving waits", x.kindAt(0), Inns.LEAVES);
         x.tick(9);
         x.goBack(0);
         Check.due("goBack: the snapshot stays", x.time(), 7);
@@ -1049,7 +986,7 @@ public final class PromiseTest {
 
     // What a yes tells, what a guest remembers of its want, and the next number are seen only by what follows.
     private static void undoBringsBackWhatIsNotSeen() {
-        KeyLeases x = withGuest();
+        KeyLeases x = Inns.withGuest();
         x.tick(4);
         x.renew(0);
         x.deliver(0);
@@ -1063,7 +1000,7 @@ public final class PromiseTest {
         for (int i = 0; i < 6; i++) {
             x.undo();
         }
-        Check.due("undo: the earlier yes waits", x.kindAt(0), YES);
+        Check.due("undo: the earlier yes waits", x.kindAt(0), Inns.YES);
         Check.due("undo: the ticks began with the stay", x.ticksToRenewal(0), 26);
         x.tick(1);
         x.deliver(0);
@@ -1093,7 +1030,7 @@ public final class PromiseTest {
     }
 
     private static void roomOf() {
-        KeyLeases x = withWant();
+        KeyLeases x = Inns.withWant();
         Check.dueStill("roomOf: wants", x, () -> x.roomOf(0), 0);
         x.deliverAll();
         Check.dueStill("roomOf: has", x, () -> x.roomOf(0), 0);
@@ -1110,7 +1047,7 @@ public final class PromiseTest {
     }
 
     private static void ticksLeft() {
-        KeyLeases x = withGuest();
+        KeyLeases x = Inns.withGuest();
         Check.dueStill("ticksLeft", x, () -> x.ticksLeft(0), 60);
         x.tick(59);
         Check.dueStill("ticksLeft: the last", x, () -> x.ticksLeft(0), 1);
@@ -1118,14 +1055,14 @@ public final class PromiseTest {
         Check.dueThrows("ticksLeft: rests", Check.NOT_NOW, x, () -> x.ticksLeft(0));
         x.seek(1);
         Check.dueThrows("ticksLeft: seeks", Check.NOT_NOW, x, () -> x.ticksLeft(1));
-        KeyLeases wanting = withWant();
+        KeyLeases wanting = Inns.withWant();
         Check.dueThrows("ticksLeft: wants", Check.NOT_NOW, wanting, () -> wanting.ticksLeft(0));
         Check.dueThrows("ticksLeft(12)", Check.NO_SUCH, x, () -> x.ticksLeft(12));
         Check.dueThrows("ticksLeft(-1)", Check.NO_SUCH, x, () -> x.ticksLeft(-1));
     }
 
     private static void ticksToRenewal() {
-        KeyLeases x = withGuest();
+        KeyLeases x = Inns.withGuest();
         Check.dueStill("ticksToRenewal", x, () -> x.ticksToRenewal(0), 30);
         x.tick(29);
         Check.due("ticksToRenewal: in the next tick", x.ticksToRenewal(0), 1);
@@ -1140,17 +1077,17 @@ public final class PromiseTest {
         Check.dueThrows("ticksToRenewal(-1)", Check.NO_SUCH, x, () -> x.ticksToRenewal(-1));
         KeyLeases least = new KeyLeases();
         least.changeLease(8);
-        house(least, 0);
+        Inns.house(least, 0);
         Check.due("ticksToRenewal: 4 of 8", least.ticksToRenewal(0), 4);
         least.tick(4);
         Check.due("ticksToRenewal: 7 of 8", least.ticksToRenewal(0), 3);
         KeyLeases odd = new KeyLeases();
         odd.changeLease(199);
-        house(odd, 0);
+        Inns.house(odd, 0);
         Check.due("ticksToRenewal: 99 of 199", odd.ticksToRenewal(0), 99);
         odd.tick(99);
         Check.due("ticksToRenewal: 174 of 199", odd.ticksToRenewal(0), 75);
-        KeyLeases wanting = withWant();
+        KeyLeases wanting = Inns.withWant();
         Check.dueThrows("ticksToRenewal: wants", Check.NOT_NOW, wanting, () -> wanting.ticksToRenewal(0));
         wanting.deliver(0);
         wanting.tick(30);
@@ -1159,7 +1096,7 @@ public final class PromiseTest {
     }
 
     private static void isHaunted() {
-        KeyLeases x = withWant();
+        KeyLeases x = Inns.withWant();
         x.turnGhost(0);
         Check.due("isHaunted: wants", x.isHaunted(0), false);
         x.turnGhost(0);
@@ -1175,7 +1112,7 @@ public final class PromiseTest {
     }
 
     private static void staysOf() {
-        KeyLeases x = withGuest();
+        KeyLeases x = Inns.withGuest();
         Check.dueStill("staysOf", x, () -> x.staysOf(0), 1);
         x.renew(0);
         x.deliverAll();
@@ -1183,7 +1120,7 @@ public final class PromiseTest {
         x.leave(0);
         x.deliverAll();
         Check.due("staysOf: left", x.staysOf(0), 1);
-        house(x, 0);
+        Inns.house(x, 0);
         Check.due("staysOf: again", x.staysOf(0), 2);
         Check.due("staysOf: another", x.staysOf(11), 0);
         Check.dueThrows("staysOf(12)", Check.NO_SUCH, x, () -> x.staysOf(12));
@@ -1191,12 +1128,12 @@ public final class PromiseTest {
     }
 
     private static void housed() {
-        KeyLeases x = withWant();
+        KeyLeases x = Inns.withWant();
         Check.dueStill("housed: wants", x, () -> x.housed(), 0);
         x.deliver(0);
         Check.due("housed: leased, but not told", x.housed(), 0);
         x.deliver(0);
-        house(x, 11);
+        Inns.house(x, 11);
         Check.dueStill("housed", x, () -> x.housed(), 2);
         x.leave(0);
         Check.due("housed: one left", x.housed(), 1);
@@ -1239,7 +1176,7 @@ public final class PromiseTest {
     }
 
     private static void ticksOf() {
-        KeyLeases x = withGuest();
+        KeyLeases x = Inns.withGuest();
         x.seek(1);
         x.deliver(0);
         x.turnGhost(2);
@@ -1294,7 +1231,7 @@ public final class PromiseTest {
     }
 
     private static void roomFor() {
-        KeyLeases x = withGuest();
+        KeyLeases x = Inns.withGuest();
         Check.dueStill("roomFor", x, () -> x.roomFor(1), 1);
         Check.due("roomFor: one who has a room", x.roomFor(0), 1);
         x.seek(2);
@@ -1304,11 +1241,11 @@ public final class PromiseTest {
         Check.dueThrows("roomFor(12)", Check.NO_SUCH, x, () -> x.roomFor(12));
         Check.dueThrows("roomFor(-1)", Check.NO_SUCH, x, () -> x.roomFor(-1));
         KeyLeases twice = new KeyLeases();
-        house(twice, 0);
-        house(twice, 1);
+        Inns.house(twice, 0);
+        Inns.house(twice, 1);
         twice.leave(0);
         twice.lose(0);
-        house(twice, 0);
+        Inns.house(twice, 0);
         twice.leave(0);
         twice.deliverAll();
         twice.tick(60);
@@ -1318,8 +1255,8 @@ public final class PromiseTest {
     // ---- promises 37 to 44
 
     private static void leasedByRoomsAndGuests() {
-        KeyLeases x = withGuest();
-        house(x, 1);
+        KeyLeases x = Inns.withGuest();
+        Inns.house(x, 1);
         dueLeased(x, 2);
         x.renew(1);
         x.deliverAll();
@@ -1327,7 +1264,7 @@ public final class PromiseTest {
         x.leave(0);
         x.lose(0);
         dueLeased(x, 2);
-        house(x, 0);
+        Inns.house(x, 0);
         dueLeased(x, 3);
         x.leave(0);
         x.deliverAll();
@@ -1351,7 +1288,7 @@ public final class PromiseTest {
     }
 
     private static void freeRooms() {
-        KeyLeases x = withGuest();
+        KeyLeases x = Inns.withGuest();
         x.seek(1);
         x.deliver(0);
         Check.dueStill("freeRooms", x, () -> x.freeRooms(), 14);
@@ -1372,7 +1309,7 @@ public final class PromiseTest {
         Check.dueThrows("nextFreeByRooms", Check.NOT_NOW, x, () -> x.nextFreeByRooms());
         Check.dueThrows("nextFreeByTicks", Check.NOT_NOW, x, () -> x.nextFreeByTicks());
         x.changeLease(200);
-        house(x, 0);
+        Inns.house(x, 0);
         dueNextFree(x, 200);
         x.tick(1);
         dueNextFree(x, 199);
@@ -1420,8 +1357,8 @@ public final class PromiseTest {
         x.seek(7);
         x.deliver(0);
         Check.dueStill("messages", x, () -> x.messages(), 2);
-        Check.dueStill("kindAt(0)", x, () -> x.kindAt(0), SEEKS);
-        Check.dueStill("kindAt(1)", x, () -> x.kindAt(1), OFFERS);
+        Check.dueStill("kindAt(0)", x, () -> x.kindAt(0), Inns.SEEKS);
+        Check.dueStill("kindAt(1)", x, () -> x.kindAt(1), Inns.OFFERS);
         Check.dueStill("guestAt(0)", x, () -> x.guestAt(0), 7);
         Check.dueStill("guestAt(1)", x, () -> x.guestAt(1), 6);
         Check.dueStill("roomAt(1)", x, () -> x.roomAt(1), 14);
@@ -1431,9 +1368,9 @@ public final class PromiseTest {
             Check.dueThrows("guestAt", Check.NO_SUCH, x, () -> x.guestAt(place));
             Check.dueThrows("roomAt", Check.NO_SUCH, x, () -> x.roomAt(place));
         }
-        KeyLeases full = withFullRow();
+        KeyLeases full = Inns.withFullRow();
         Check.dueStill("messages: 60", full, () -> full.messages(), 60);
-        Check.due("kindAt(59)", full.kindAt(59), SEEKS);
+        Check.due("kindAt(59)", full.kindAt(59), Inns.SEEKS);
         Check.dueThrows("kindAt(60)", Check.NO_SUCH, full, () -> full.kindAt(60));
     }
 
@@ -1470,13 +1407,13 @@ public final class PromiseTest {
         }
         x.seek(3);
         x.lose(0);
-        Check.due("sent: lost later", x.sent(SEEKS), 4);
+        Check.due("sent: lost later", x.sent(Inns.SEEKS), 4);
         Check.dueThrows("sent(7)", Check.BAD, x, () -> x.sent(7));
         Check.dueThrows("sent(-1)", Check.BAD, x, () -> x.sent(-1));
     }
 
     private static void lost() {
-        KeyLeases x = withFullRow();
+        KeyLeases x = Inns.withFullRow();
         Check.dueStill("lost: none", x, () -> x.lost(), 0);
         x.seek(1);
         Check.dueStill("lost: no place", x, () -> x.lost(), 1);
@@ -1499,32 +1436,32 @@ public final class PromiseTest {
         x.seek(1);
         x.lose(0);
         Check.due("delivered: not the lost ones", x.delivered(), 4);
-        type(x, "s2;d0");
+        Inns.type(x, "s2;d0");
         x.play();
         Check.due("delivered: by play()", x.delivered(), 5);
     }
 
     private static void leases() {
-        KeyLeases x = withWant();
+        KeyLeases x = Inns.withWant();
         Check.dueStill("leases: none", x, () -> x.leases(), 0);
         x.deliver(0);
         Check.dueStill("leases: given, but not told", x, () -> x.leases(), 1);
         x.lose(0);
         x.giveUp(0);
         Check.due("leases: the yes is lost", x.leases(), 1);
-        house(x, 1);
+        Inns.house(x, 1);
         x.renew(1);
         x.deliverAll();
         Check.due("leases: more time", x.leases(), 3);
-        KeyLeases late = withWant();
+        KeyLeases late = Inns.withWant();
         late.tick(10);
         late.deliverAll();
         Check.due("leases: a no", late.leases(), 0);
     }
 
     private static void evicted() {
-        KeyLeases x = withGuest();
-        house(x, 1);
+        KeyLeases x = Inns.withGuest();
+        Inns.house(x, 1);
         x.tick(59);
         Check.dueStill("evicted: none", x, () -> x.evicted(), 0);
         x.leave(1);
@@ -1563,7 +1500,7 @@ public final class PromiseTest {
         KeyLeases fresh = new KeyLeases();
         fresh.seek(0);
         Check.due("wouldHouse: the first call of all", fresh.wouldHouse(), 1);
-        KeyLeases x = withGuest();
+        KeyLeases x = Inns.withGuest();
         Check.dueStill("wouldHouse: as it is", x, () -> x.wouldHouse(), 1);
         x.seek(1);
         x.seek(2);
@@ -1582,7 +1519,7 @@ public final class PromiseTest {
                 x.lose(0);
             }
             x.turnGhost(9);
-            house(x, leased > 12 ? leased - 13 : leased - 1);
+            Inns.house(x, leased > 12 ? leased - 13 : leased - 1);
             x.turnGhost(9);
             Check.due("leasedShare of " + leased, x.leasedShare() == leased / 16.0, true);
             Check.due("digest of " + leased, x.digest(), Digest.of(x, new boolean[2], ""));
@@ -1619,16 +1556,16 @@ public final class PromiseTest {
         x.changeShut(190);
         x.keep(1);
         slotTaken[1] = true;
-        type(x, "s0;t?~!");
+        Inns.type(x, "s0;t?~!");
         dueDigest("with a snapshot and a buffer", x, slotTaken, "s0;t?~!");
         x.keep(0);
         slotTaken[0] = true;
         x.undo();
         x.tick(35);
         dueDigest("behind undo", x, slotTaken, "s0;t?~!");
-        type(x, LONGEST);
-        dueDigest("with a full buffer", x, slotTaken, LONGEST);
-        KeyLeases full = withFullRow();
+        Inns.type(x, Inns.LONGEST);
+        dueDigest("with a full buffer", x, slotTaken, Inns.LONGEST);
+        KeyLeases full = Inns.withFullRow();
         full.seek(11);
         dueDigest("60 wait", full, new boolean[2], "");
         Check.dueThrows("digest: saves nothing", Check.NO_SUCH, full, () -> full.deliver(60));

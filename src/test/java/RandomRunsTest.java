@@ -169,6 +169,19 @@ public final class RandomRunsTest {
         for (int kind = -1; kind <= 7; kind++) {
             compareOnly("sent", kind, 0);
         }
+        for (int guest = 0; guest < 12; guest++) {
+            dueNotBehindTheInn(guest);
+        }
+    }
+
+    // What the document puts in brackets: ticks end for the guest not behind the inn.
+    private void dueNotBehindTheInn(int guest) {
+        if (x.doingOf(guest) == 3) {
+            int room = x.roomOf(guest);
+            boolean leased = x.stateOf(room) == 2 && x.guestOf(room) == guest;
+            Check.due("leased to the guest who has it", leased, true);
+            Check.due("not behind the inn", leased && x.ticksLeft(guest) <= x.ticksOf(room), true);
+        }
     }
 
     private void compareEach(String[] names, int a) throws Exception {
