@@ -23,8 +23,11 @@ public final class FaceTest {
 
     private static void faceIsTheDocuments() throws Exception {
         TreeSet<String> wanted = new TreeSet<>();
+        String source = Files.readString(SOURCE);
         Matcher lines = Pattern.compile("(?m)^    public (.*);$").matcher(Files.readString(DOC));
         while (lines.find()) {
+            Check.due("the source has the line: " + lines.group(1),
+                source.contains("    public " + lines.group(1) + " {\n"), true);
             wanted.add(lines.group(1).replaceAll("\\bint [a-z]+(?=[,)])", "int"));
         }
         TreeSet<String> found = new TreeSet<>();
